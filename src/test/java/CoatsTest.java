@@ -85,6 +85,12 @@ public final class CoatsTest {
         x.lay(0, 1);
         check.due(5, "of(5, 3): LAID in YEAR 2", x.of(5, 3), 2);
         check.due(5, "of(4, 3): LAID in YEAR 0", x.of(4, 3), 0);
+        x = Check.told("99;r1,r2,r3,r4,r5,r6,r7,r8,r9,r10");
+        check.due(5, "of(9, 5) of ten", x.of(9, 5), 0);
+        check.due(5, "of(0, 5) of ten", x.of(0, 5), 54);
+        x.strip(4);
+        check.due(5, "of(0, 5): what is gone takes nothing", x.of(0, 5), 20);
+        check.due(5, "of(6, 1)", x.of(6, 1), ThatchCoats.BAD);
     }
 
     private static void rains() {
@@ -124,6 +130,9 @@ public final class CoatsTest {
         check.due(8, "99+0+00+40", Check.roof(new ThatchCoats(), "99+0+00+40"), 0);
         check.due(8, "a coat without rains", Check.roof(new ThatchCoats(), "7;t20~9"), 1);
         check.due(8, "ten coats", Check.roof(new ThatchCoats(), "1;r1,w2,s3,y4,t5,r6,w7,s8,y9,t10"), 10);
+        check.due(8, "a blank behind ten", Check.roof(new ThatchCoats(), "1;r1,r1,r1,r1,r1,r1,r1,r1,r1,r1~1 "), 10);
+        check.due(8, "a letter behind ten",
+            Check.roof(new ThatchCoats(), "1;r1,r1,r1,r1,r1,r1,r1,r1,r1,r1~1 ~"), -20 - 34);
         check.due(8, "blanks", Check.roof(new ThatchCoats(), "  9 + 4 + 40 ; r 5 ~ 3 , t 20  "), 2);
         ThatchCoats x = Check.told("45+12+3;r4~2,w07,s3~0,y6,t20~9");
         check.due(8, "count(1): twice 45", x.count(1), 90);
@@ -158,6 +167,7 @@ public final class CoatsTest {
                 check.fail("promise 8: a fault changed the house: \"" + texts[i] + "\"");
             }
             check.due(8, "type(57): the tape is empty behind a fault", x.type(57), 1);
+            check.due(8, "roof of 9 behind a fault", x.roof(), 0);
         }
     }
 
@@ -178,6 +188,13 @@ public final class CoatsTest {
         x.strip(1);
         x.undo();
         check.due(8, "undo() behind one", x.undo(), ThatchCoats.NONE);
+        x.years(3);
+        x.strip(1);
+        x.lay(0, 1);
+        check.due(8, "of(0, 3) LAID in YEAR 3", x.of(0, 3), 3);
+        Check.roof(x, "9;w3,w2");
+        check.due(8, "of(0, 3): LAID in YEAR 0", x.of(0, 3), 0);
+        check.due(8, "of(1, 3): LAID in YEAR 0", x.of(1, 3), 0);
     }
 
     private static void count() {

@@ -262,6 +262,7 @@ public final class DoneTest {
                 check.fail("promise 16: undone " + what + " is not as it was");
             }
         }
+        laidAsItWas();
         // walls and rains told since stay; refusals leave nothing to be undone
         x.strip(1);
         x.walls(33);
@@ -276,6 +277,24 @@ public final class DoneTest {
         check.due(16, "count(0)", x.count(0), 3);
         check.due(16, "count(1): walls stay", x.count(1), 33);
         check.due(16, "count(2): rains stay", x.count(2), 3);
+    }
+
+    private static void laidAsItWas() {
+        ThatchCoats x = new ThatchCoats();
+        x.years(2);
+        x.lay(1, 9);
+        x.image();
+        x.years(1);
+        x.strip(1);
+        x.lay(1, 9);
+        check.due(16, "of(0, 3)", x.of(0, 3), 3);
+        x.undo();
+        x.undo();
+        check.due(16, "of(0, 3) is as it was", x.of(0, 3), 2);
+        x.strip(1);
+        x.lay(1, 9);
+        x.restore();
+        check.due(29, "of(0, 3) is as it was", x.of(0, 3), 2);
     }
 
     private static void seed() {

@@ -127,6 +127,16 @@ public final class ForetoldTest {
         check.due(23, "relief(1, 1): WALLS bear nothing", x.relief(1, 1), ThatchCoats.NONE);
         check.due(23, "relief(9, 2): BAD ahead of NONE", x.relief(9, 2), ThatchCoats.BAD);
         check.due(23, "relief(1, 0) without coats", new ThatchCoats().relief(1, 0), ThatchCoats.NONE);
+        // the coats above keep their own kind, thickness and damp: s~0 takes 2 more, s~9 does not
+        x = Check.told("99+9;r1,s5~9,s7~0");
+        check.due(23, "relief(1, 0)", x.relief(1, 0), 0);
+        check.due(23, "relief(1, 1)", x.relief(1, 1), 0);
+        x = Check.told("10+9;s1~9,r3,w8");
+        check.due(23, "relief(2, 0)", x.relief(2, 0), 0);
+        check.due(23, "relief(2, 1): 2 and 3 leak", x.relief(2, 1), 2 + 3);
+        x = Check.told("99+9;r2~9,s9~0");
+        x.walls(10);
+        check.due(23, "relief(1, 0): what is left is not damp", x.relief(1, 0), 0);
         x = Check.told("10+9;r9~9");
         x.walls(1);
         check.due(23, "relief(20, 0): the only one", x.relief(20, 0), 0);
@@ -158,6 +168,14 @@ public final class ForetoldTest {
         x = Check.told("45+22;w2,r4,s18");
         check.due(24, "share(6, 1, -1)", x.share(6, 1, -1), 0);
         check.due(24, "share(1, 1, 2) of one coat", Check.told("45;r4").share(1, 1, 0), 1);
+        // the middle one gains nothing; both others take 1 more by 1 straw each: 2 and 10 and 1 of 40
+        x = Check.told("45+40;w1,w20,w3");
+        check.due(24, "share(2, 1, -1)", x.share(2, 1, -1), 27);
+        check.due(24, "share(2, 1, -2)", x.share(2, 1, -2), 2 + 25 + 4);
+        int[] straws = {1, 0, 1};
+        for (int k = 0; k < 3; k++) {
+            check.due(24, "share(2, 1, " + k + ")", x.share(2, 1, k), straws[k]);
+        }
         // ten coats, 6 straw: as many ways as there can be; no rains: of like ones the first
         x = Check.told("99;r1,r1,r1,r1,r1,r1,r1,r1,r1,r2");
         check.due(24, "share(6, 1, 9)", x.share(6, 1, 9), 6);

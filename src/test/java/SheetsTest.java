@@ -164,9 +164,11 @@ public final class SheetsTest {
         check.due(32, "sheet(4, 0, -1): BAD ahead of SIZE", x.sheet(4, 0, -1), BAD);
         check.due(32, "drop(0): refused, nothing is there", x.drop(0), NULL);
         check.due(32, "sheet(0, 0, 24)", x.sheet(0, 0, 24), 24);
+        x.item(0, 0, 0, 5);
         x.item(0, 0, 23, 5);
         check.due(32, "KINDS by 5", x.stains(0, 0, 0, 23, 1, 0), 1 << 1 | 1 << 3);
         check.due(32, "sheet(0, 0, 24)", x.sheet(0, 0, 24), 24);
+        check.due(32, "KINDS by a new row's 0", x.stains(0, 0, 0, 0, 1, 0), 1 | 1 << 2 | 1 << 4);
         check.due(32, "KINDS by a new row's 0", x.stains(0, 0, 0, 23, 1, 0), 1 | 1 << 2 | 1 << 4);
         check.due(32, "sheet(0, 3, 2)", x.sheet(0, 3, 2), 2);
         check.due(32, "item of the old lane", x.item(0, 0, 0, 1), CAST);
