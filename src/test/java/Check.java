@@ -15,6 +15,10 @@ final class Check {
         }
     }
 
+    int asked() {
+        return asked;
+    }
+
     void fail(String text) {
         wrong++;
         if (wrong <= 40) {
@@ -47,26 +51,5 @@ final class Check {
             throw new IllegalStateException("the test's own text has a fault: " + text + ": " + answer);
         }
         return x;
-    }
-
-    /** All that the calls tell of a house, without changing it. */
-    static String seen(ThatchCoats x) {
-        StringBuilder s = new StringBuilder();
-        for (int what = 0; what <= 8; what++) {
-            s.append(x.count(what)).append(' ');
-        }
-        for (int coat = 0; coat < x.count(0); coat++) {
-            s.append('|');
-            for (int what = 0; what <= 5; what++) {
-                s.append(x.of(coat, what)).append(' ');
-            }
-        }
-        s.append('/');
-        for (int n = 0; n <= 8; n++) {
-            s.append(x.rains(n)).append(' ');
-        }
-        int draw = x.seed(0);
-        x.seed(draw);
-        return s.append('!').append(draw).toString();
     }
 }

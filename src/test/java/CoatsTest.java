@@ -161,9 +161,9 @@ public final class CoatsTest {
             ThatchCoats x = Check.told("45+12+3;r4~2,w7");
             x.years(3);
             x.seed(77);
-            String before = Check.seen(x);
+            String before = Seen.house(x);
             check.due(8, "roof of \"" + texts[i] + "\"", Check.roof(x, texts[i]), -20 - places[i]);
-            if (!before.equals(Check.seen(x))) {
+            if (!before.equals(Seen.house(x))) {
                 check.fail("promise 8: a fault changed the house: \"" + texts[i] + "\"");
             }
             check.due(8, "type(57): the tape is empty behind a fault", x.type(57), 1);

@@ -216,7 +216,7 @@ public final class DoneTest {
         check.due(16, "undo()", x.undo(), ThatchCoats.NONE);
         String[] seen = new String[13];
         for (int i = 0; i <= 12; i++) {
-            seen[i] = Check.seen(x);
+            seen[i] = Seen.house(x);
             x.years(1);
         }
         check.due(16, "count(8)", x.count(8), 8);
@@ -235,8 +235,8 @@ public final class DoneTest {
         check.due(16, "undo()", x.undo(), 2);
         check.due(16, "undo()", x.undo(), 1);
         check.due(16, "undo()", x.undo(), 0);
-        if (!seen[0].equals(Check.seen(x))) {
-            check.fail("promise 16: all undone is not as it was: " + Check.seen(x));
+        if (!seen[0].equals(Seen.house(x))) {
+            check.fail("promise 16: all undone is not as it was: " + Seen.house(x));
         }
     }
 
@@ -245,7 +245,7 @@ public final class DoneTest {
         x.years(2);
         x.undo();
         for (int what = 0; what < 6; what++) {
-            String before = Check.seen(x);
+            String before = Seen.house(x);
             int known = x.count(8);
             switch (what) {
                 case 0: x.years(1); break;
@@ -258,7 +258,7 @@ public final class DoneTest {
             check.due(16, "count(8) behind " + what, x.count(8), known + 1);
             x.seed(99);
             check.due(16, "undo() of " + what, x.undo(), known);
-            if (!before.equals(Check.seen(x))) {
+            if (!before.equals(Seen.house(x))) {
                 check.fail("promise 16: undone " + what + " is not as it was");
             }
         }

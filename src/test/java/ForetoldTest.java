@@ -20,7 +20,7 @@ public final class ForetoldTest {
     private static void ahead() {
         ThatchCoats x = Check.told("45+12+3+25;r4~2,w7,s3,y6~1");
         x.years(2);
-        String before = Check.seen(x);
+        String before = Seen.house(x);
         ThatchCoats y = Check.told("45+12+3+25;r4~2,w7,s3,y6~1");
         y.years(2);
         for (int n = 0; n <= 40; n++) {
@@ -42,7 +42,7 @@ public final class ForetoldTest {
         x.worst(0);
         x.hot(1);
         x.bursts(6, 5, 0);
-        if (!before.equals(Check.seen(x))) {
+        if (!before.equals(Seen.house(x))) {
             check.fail("promise 18: what is foretold changed the house");
         }
     }
@@ -252,7 +252,7 @@ public final class ForetoldTest {
         x.seed(1234);
         x.sheet(0, 2, 5);
         Check.type(x, "9;");
-        String before = Check.seen(x);
+        String before = Seen.house(x);
         check.due(28, "image()", x.image(), 1);
         Check.type(x, "r4");
         x.item(0, 2, 0, 3);
@@ -264,8 +264,8 @@ public final class ForetoldTest {
         x.seed(5);
         x.sheet(1, 0, 7);
         check.due(29, "restore()", x.restore(), 1);
-        if (!before.equals(Check.seen(x))) {
-            check.fail("promise 29: not as it was then: " + Check.seen(x));
+        if (!before.equals(Seen.house(x))) {
+            check.fail("promise 29: not as it was then: " + Seen.house(x));
         }
         check.due(29, "drop(1): sheets stay", x.drop(1), 7);
         check.due(29, "drop(0): sheets stay", x.drop(0), 5);
@@ -277,8 +277,8 @@ public final class ForetoldTest {
         check.due(29, "count(3)", x.count(3), 0);
         check.due(29, "roof(): the tape stays", x.roof(), 1);
         check.due(29, "restore() again, behind a roof", x.restore(), 1);
-        if (!before.equals(Check.seen(x))) {
-            check.fail("promise 29: not as it was then, again: " + Check.seen(x));
+        if (!before.equals(Seen.house(x))) {
+            check.fail("promise 29: not as it was then, again: " + Seen.house(x));
         }
         x.strip(2);
         check.due(28, "image() in place of the other", x.image(), 1);

@@ -3,8 +3,10 @@ import java.util.Random;
 /** Random runs of all calls, each answer compared with the model's. The seeds are fixed. */
 public final class ModelTest {
     private static final Check check = new Check("ModelTest");
-    private static final int RUNS = 600, CALLS = 300;
+    /** The document says nothing of calls behind the 512th; a look around or a text takes up to 130 at once. */
+    private static final int RUNS = 1200, CALLS = 380;
     private final Random random;
+    private int calls = 0;
     private final ThatchCoats x = new ThatchCoats();
     private final Model m = new Model();
 
@@ -20,7 +22,7 @@ public final class ModelTest {
     }
 
     private void run(int run) {
-        for (int i = 0; i < CALLS; i++) {
+        for (int i = 0; i < CALLS && calls < CALLS; i++) {
             int which = random.nextInt(44);
             if (which < 12) {
                 told(run);
@@ -50,6 +52,7 @@ public final class ModelTest {
     }
 
     private void due(int run, int promise, String call, int got, int want) {
+        calls++;
         check.due(promise, "run " + run + ", " + call, got, want);
     }
 

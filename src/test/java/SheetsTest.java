@@ -138,18 +138,13 @@ public final class SheetsTest {
         check.due(31, "film(24)", x.film(24, 0, 0, 0), 24);
     }
 
-    /** An item's number, if it is 0 .. 39: no call tells it, but a REED thick by 1 leaks v by v + 1 of rain. */
+    /** An item's number; the house is as it was then. */
     private static int itemTold(ThatchCoats x, int sheet, int lane, int i) {
-        int found = -1;
         x.image();
-        for (int v = 0; v <= 39 && found < 0; v++) {
-            Check.roof(x, "99+" + (v + 1) + ";r1");
-            if (x.stains(0, sheet, lane, i, 1, 0) % 2 == 1) {
-                found = v;
-            }
-        }
+        Seen.readyToRead(x);
+        int item = Seen.item(x, sheet, lane, i);
         x.restore();
-        return found;
+        return item;
     }
 
     private static void sheet() {
@@ -245,8 +240,9 @@ public final class SheetsTest {
     }
 
     private static void row(ThatchCoats x, int sheet, int[] want) {
+        Seen.readyToRead(x);
         for (int i = 0; i < want.length; i++) {
-            check.due(35, "item " + i, itemTold(x, sheet, 1, i), want[i]);
+            check.due(35, "item " + i, Seen.item(x, sheet, 1, i), want[i]);
         }
     }
 
