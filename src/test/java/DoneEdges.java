@@ -1,3 +1,5 @@
+import java.util.Collections;
+
 /** Boundary cases of promises 10 to 17, and of what sections 1 and 3 say of years, coats, fire, draws, undoing. */
 final class DoneEdges {
     private static final int BAD = ThatchCoats.BAD, NOT = ThatchCoats.NOT, FULL = ThatchCoats.FULL,
@@ -56,8 +58,8 @@ final class DoneEdges {
         return x;
     }
 
-    private static String coats(String separator, String coat, int n) {
-        return String.join(separator, java.util.Collections.nCopies(n, coat));
+    private static String coats(String coat, int n) {
+        return String.join(",", Collections.nCopies(n, coat));
     }
 
     private void takesByKind() {
@@ -166,7 +168,7 @@ final class DoneEdges {
         x.years(1);
         e.due("count(0): none to wear", x.count(0), 0);
         e.due("count(3)", x.count(3), 7);
-        x = Check.told("9;" + coats(",", "r1", 10));
+        x = Check.told("9;" + coats("r1", 10));
         x.years(9);
         e.due("count(0): one goes each YEAR", x.count(0), 1);
     }
@@ -224,9 +226,9 @@ final class DoneEdges {
             e.due("\"" + roofs[i] + "\" by " + heats[i], x.fire(heats[i]), burnt[i]);
             e.due("count(0)", x.count(0), before - burnt[i]);
         }
-        ThatchCoats x = Check.told("9;" + coats(",", "r20~6", 10));
+        ThatchCoats x = Check.told("9;" + coats("r20~6", 10));
         e.due("ten, one short", x.fire(259), 9);
-        x = Check.told("9;" + coats(",", "r20~6", 10));
+        x = Check.told("9;" + coats("r20~6", 10));
         e.due("ten", x.fire(260), 10);
     }
 
@@ -372,7 +374,7 @@ final class DoneEdges {
         for (int coat = 0; coat < 5; coat++) {
             e.due("of five, " + coat, x.of(coat, 1), ofFive[coat]);
         }
-        x = Check.told("99;" + coats(",", "r9", 10));
+        x = Check.told("99;" + coats("r9", 10));
         x.seed(SEED_THAT_HITS);
         x.drift(1);
         for (int coat = 0; coat < 10; coat++) {
@@ -433,7 +435,7 @@ final class DoneEdges {
             {32767L * 65536 - 1, 2, 1}, {32766L * 65536, 2, 0}};
         for (long[] d : drawCoatsAndDrawn) {
             int n = (int) d[1];
-            ThatchCoats x = Check.told("99;" + coats(",", "r9", n));
+            ThatchCoats x = Check.told("99;" + coats("r9", n));
             x.seed(seedAheadOf(d[0]));
             x.drift(1);
             for (int coat = 0; coat < n; coat++) {

@@ -1,3 +1,5 @@
+import java.util.function.ToIntFunction;
+
 /** Boundary cases of promises 18 to 29, and of what section 2 says of them. */
 final class ForetoldEdges {
     private static final int BAD = ThatchCoats.BAD, FULL = ThatchCoats.FULL, NONE = ThatchCoats.NONE;
@@ -27,7 +29,7 @@ final class ForetoldEdges {
         restore();
     }
 
-    private void bad(String call, java.util.function.ToIntFunction<ThatchCoats> asked) {
+    private void bad(String call, ToIntFunction<ThatchCoats> asked) {
         e.unchanged(call, () -> Check.told(ANY), asked, BAD);
     }
 
@@ -374,6 +376,10 @@ final class ForetoldEdges {
         burstsAre("9+40;t18,t20", 1, 10, 1, 1);
         burstsAre("9+40;r19,t20,w18", 1, 10, 0, 1);
         burstsAre("9+40", 6, 0, 0, 1);
+        // the YEAR behind them does not count, though it leaks
+        burstsAre("9+40", 0, 5, 1, 1);
+        burstsAre("9+5;r5", 1, 0, 1, 1);
+        burstsAre("9+1;r6", 6, 0, 1, 1);
         burstsAre("9+0", 6, 10, 1, 1);
         burstsAre("9", 6, 5, 1, 1);
         // none leaks in the first YEAR, only a burst of the second: 2 YEARS of rains apart

@@ -4,8 +4,8 @@ import java.util.function.ToIntFunction;
 /** What the Terms say of refusals of every call: which of several is answered, and that nothing is changed. */
 final class RefusedEdges {
     private static final int BAD = ThatchCoats.BAD, NOT = ThatchCoats.NOT, FULL = ThatchCoats.FULL,
-        NONE = ThatchCoats.NONE,
-        NULL = ThatchCoats.NULL, CAST = ThatchCoats.CAST, INDEX = ThatchCoats.INDEX, SIZE = ThatchCoats.SIZE;
+        NONE = ThatchCoats.NONE, NULL = ThatchCoats.NULL, CAST = ThatchCoats.CAST, INDEX = ThatchCoats.INDEX,
+        SIZE = ThatchCoats.SIZE;
 
     private final Edges e;
     private Supplier<ThatchCoats> made = ThatchCoats::new;

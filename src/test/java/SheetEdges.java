@@ -1,3 +1,5 @@
+import java.util.function.ToIntFunction;
+
 /** Boundary cases of promises 30 to 35, and of what section 3 says of sheets and stains. */
 final class SheetEdges {
     private static final int BAD = ThatchCoats.BAD, NULL = ThatchCoats.NULL, CAST = ThatchCoats.CAST,
@@ -40,7 +42,7 @@ final class SheetEdges {
         return x;
     }
 
-    private void refused(String call, java.util.function.ToIntFunction<ThatchCoats> asked, int want) {
+    private void refused(String call, ToIntFunction<ThatchCoats> asked, int want) {
         e.unchanged(call, SheetEdges::some, asked, want);
     }
 
