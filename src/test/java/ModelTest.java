@@ -5,6 +5,8 @@ public final class ModelTest {
     private static final Check check = new Check("ModelTest");
     /** The document says nothing of calls behind the 512th; a look around or a text takes up to 130 at once. */
     private static final int RUNS = 1200, CALLS = 380;
+    /** As many calls of 40 years as leave the YEAR within reach of 9999; one run in so many begins by them. */
+    private static final int LONG_YEARS = 249, LONG_RUNS = 20;
     private final Random random;
     private int calls = 0;
     private final ThatchCoats x = new ThatchCoats();
@@ -22,6 +24,9 @@ public final class ModelTest {
     }
 
     private void run(int run) {
+        if (run % LONG_RUNS == 0) {
+            comeNearTheLastYear(run);
+        }
         for (int i = 0; i < CALLS && calls < CALLS; i++) {
             int which = random.nextInt(44);
             if (which < 12) {
@@ -32,6 +37,16 @@ public final class ModelTest {
                 foretold(run);
             } else {
                 sheets(run);
+            }
+        }
+    }
+
+    private void comeNearTheLastYear(int run) {
+        for (int i = 0; i < LONG_YEARS; i++) {
+            if (random.nextBoolean()) {
+                due(run, 10, "years 40", x.years(40), m.years(40));
+            } else {
+                due(run, 15, "drift 40", x.drift(40), m.drift(40));
             }
         }
     }
@@ -110,8 +125,7 @@ public final class ModelTest {
     }
 
     private void tell(int run, String text) {
-        x.roof();
-        m.roof();
+        due(run, 8, "roof", x.roof(), m.roof());
         for (int i = 0; i < text.length(); i++) {
             due(run, 7, "type", x.type(text.charAt(i)), m.type(text.charAt(i)));
         }
